@@ -45,10 +45,9 @@ public final class NestedSums {
     private static final int COUNTS = 13;
     private static final int TRIAL_ANSWERS = 3;
 
-    private final Sheet sheet = new Sheet();
-    private final Layout layout = new Layout(sheet);
-    private final Sheet trialSheet = new Sheet();
-    private final Layout trialLayout = new Layout(trialSheet);
+    private final Layout layout = new Layout();
+    private final Sheet sheet = layout.sheet;
+    private final Layout trial = new Layout();
     private final History history = new History();
     private final OrderText buffer = new OrderText();
 
@@ -411,20 +410,20 @@ public final class NestedSums {
         if (!sheet.isCell(square) || sheet.kinds.at(square) == TABLE) {
             return false;
         }
-        trialSheet.copyFrom(sheet);
-        trialSheet.fill(square, NUMBER, number);
-        trialLayout.measure();
+        trial.sheet.copyFrom(sheet);
+        trial.sheet.fill(square, NUMBER, number);
+        trial.measure();
         return true;
     }
 
     private int trialAnswer(int square, int what) {
         switch (what) {
             case 0:
-                return trialLayout.tableValues.at(0);
+                return trial.tableValues.at(0);
             case 1:
                 return countChangedSums(square);
             default:
-                return trialLayout.tableSizes.at(ACROSS);
+                return trial.tableSizes.at(ACROSS);
         }
     }
 
@@ -432,7 +431,7 @@ public final class NestedSums {
         int changed = 0;
         for (int square = 0; square < sheet.squaresEnd(); square++) {
             boolean isOtherSum = square != triedSquare && sheet.isCell(square) && isSum(sheet.kinds.at(square));
-            if (isOtherSum && layout.shown.at(square) != trialLayout.shown.at(square)) {
+            if (isOtherSum && layout.shown.at(square) != trial.shown.at(square)) {
                 changed++;
             }
         }
@@ -733,9 +732,9 @@ public final class NestedSums {
         }
     }
 
-    /** What follows from a sheet: values, sums, rules, widths, heights and pages. */
+    /** A sheet, and what follows from it: values, sums, rules, widths, heights and pages. */
     private static final class Layout {
-        private final Sheet sheet;
+        private final Sheet sheet = new Sheet();
         private final Numbers values = new Numbers(ALL_SQUARES);
         private final Numbers shown = new Numbers(ALL_SQUARES);
         /** The least row or column that a column sum or row sum counts: that of the nearest sum before it. */
@@ -748,10 +747,6 @@ public final class NestedSums {
         private final Numbers drawn = new Numbers(MOST_TABLES * WAYS);
         private final Numbers tableSizes = new Numbers(MOST_TABLES * WAYS);
         private final Numbers tableValues = new Numbers(MOST_TABLES);
-
-        Layout(Sheet sheet) {
-            this.sheet = sheet;
-        }
 
         int sizeOf(int table, int way, int line) {
             return sizes.at(sizePlace(table, way, line));

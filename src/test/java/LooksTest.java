@@ -78,6 +78,11 @@ public final class LooksTest {
         due.is("one just above", x.cell(0, 4, 0, 2), 0);
         due.is("in the first row", x.put(0, 0, 1, 4, 0) + x.cell(0, 0, 1, 2), 1);
         due.is("from the first row on", x.cell(0, 2, 0, 2), 31);
+        x.put(0, 1, 0, 4, 0);
+        x.put(0, 3, 0, 1, 100);
+        due.is("from the one above when the nearest goes", x.cell(0, 4, 0, 2), 100);
+        x.put(0, 2, 0, 1, 999);
+        due.is("from a nearest one that is farther then", x.cell(0, 4, 0, 2), 1099);
         NestedSums y = new NestedSums();
         y.begin(4, 3);
         y.put(0, 0, 0, 1, 5);
@@ -245,6 +250,14 @@ public final class LooksTest {
         for (int wrong : new int[] {8, -1, LEAST, MOST}) {
             due.refuses(x, ARGUMENT, "what " + wrong, () -> x.table(1, wrong));
         }
+        for (int table = 1; table < 4; table++) {
+            x.put(table, 0, 0, 0, 0);
+            x.nest(table, 0, 0, 1, 1);
+        }
+        x.rule(4, 0, 0, 1, 1);
+        x.rule(4, 0, 0, 0, 1);
+        due.is("the last table", x.table(4, 5) * 10 + x.table(4, 6), 11);
+        due.is("its width and height", x.table(4, 3) * 10 + x.table(4, 4), 11);
         NestedSums y = new NestedSums();
         y.span(0, 0, 0, 1, 3);
         y.span(0, 1, 0, 1, 3);
@@ -353,6 +366,10 @@ public final class LooksTest {
         x.span(0, 2, 1, 3, 1);
         x.set(2);
         pages(due, "a block of three", x, 0, 0, 1, 1, 1);
+        x.set(4);
+        pages(due, "a block of three, with all its rows", x, 0, 0, 1, 1, 1);
+        x.set(5);
+        pages(due, "a block of three, that fits", x, 0, 0, 0, 0, 0);
         x.begin(3, 2);
         x.put(0, 1, 0, 1, 1);
         x.put(0, 2, 0, 1, 1);
@@ -363,6 +380,10 @@ public final class LooksTest {
         x.span(0, 1, 0, 2, 1);
         x.put(0, 2, 1, 1, 1);
         pages(due, "blocks that overlap are one", x, 0, 0, 0);
+        x.put(0, 0, 0, 1, 1);
+        pages(due, "however high", x, 0, 0, 0);
+        x.span(0, 0, 1, 1, 1);
+        pages(due, "a cell in the first column holds rows", x, 0, 1, 1);
         NestedSums y = new NestedSums();
         y.set(2);
         y.nest(0, 0, 0, 3, 1);
@@ -404,6 +425,16 @@ public final class LooksTest {
         for (int wrong : new int[] {13, -1, LEAST, MOST}) {
             due.refuses(x, ARGUMENT, "count(" + wrong + ")", () -> x.count(wrong));
         }
+        x.begin(2, 3);
+        due.is("squares that are no cells", x.count(11), 0);
+        x.nest(0, 0, 0, 4, 3);
+        x.put(1, 0, 0, 6, 0);
+        due.is("with a table", x.count(11), 0);
+        due.is("cells", x.count(1), 18);
+        x.put(0, 0, 0, 0, 0);
+        due.is("the table is gone", x.count(11), 0);
+        due.is("with its cells", x.count(1), 6);
+        due.is("and its sum", x.count(8), 0);
         NestedSums y = new NestedSums();
         for (int row = 0; row < 3; row++) {
             for (int column = 0; column < 3; column++) {

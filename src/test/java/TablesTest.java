@@ -216,6 +216,15 @@ public final class TablesTest {
             due.refuses(x, ARGUMENT, "rows " + wrong, () -> x.span(0, 0, 0, wrong, 1));
             due.refuses(x, ARGUMENT, "columns " + wrong, () -> x.span(0, 2, 1, 1, wrong));
         }
+        x.put(0, 1, 0, 6, 0);
+        due.refuses(x, STATE, "a sum is below", () -> x.span(0, 0, 0, 2, 1));
+        x.put(0, 1, 0, 0, 0);
+        x.span(0, 0, 0, 1, 2);
+        due.refuses(x, STATE, "an empty cell with more columns is there", () -> x.span(0, 1, 0, 1, 2));
+        x.begin(3, 3);
+        x.span(0, 1, 1, 1, 2);
+        due.refuses(x, STATE, "an empty cell with more columns is there", () -> x.span(0, 0, 1, 2, 2));
+        due.refuses(x, STATE, "an empty cell with more columns is there, in part", () -> x.span(0, 0, 1, 2, 1));
         NestedSums y = new NestedSums();
         y.nest(0, 0, 0, 2, 2);
         y.nest(0, 1, 1, 1, 1);

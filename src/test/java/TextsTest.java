@@ -79,6 +79,10 @@ public final class TextsTest {
         error(due, "0a1!;;", 5);
         error(due, "0a1!,0a1!", 4);
         error(due, "0a1!;0a1x;5", 8);
+        for (String digits : new String[] {"0a1=", "0a1=-", "0a1=1", "0a1=12", "0a1w", "0a1w1"}) {
+            error(due, digits + "/", digits.length());
+            error(due, digits + ":", digits.length());
+        }
     }
 
     private static void refused(Due due, String text) {
@@ -177,6 +181,24 @@ public final class TextsTest {
         due.is("words", x.count(4), 0);
         due.is("the setting", x.set(1), 10);
         due.is("the buffer stays", x.clearBuffer(), 3);
+        undoOfPlaces(due);
+    }
+
+    /** A table with the same number comes to another cell, and then back. */
+    private static void undoOfPlaces(Due due) {
+        NestedSums x = new NestedSums();
+        x.nest(0, 0, 0, 2, 2);
+        x.put(0, 0, 1, 5, 0);
+        x.nest(1, 1, 1, 1, 1);
+        due.is("the table around it", x.table(2, 7), 1);
+        x.put(1, 1, 1, 0, 0);
+        x.nest(0, 2, 2, 1, 1);
+        due.is("another one", x.table(2, 7), 0);
+        due.is("counted by none", x.countedBy(2, 0, 0), 0);
+        x.undo();
+        x.undo();
+        due.is("that one again", x.table(2, 7), 1);
+        due.is("counted by the row sum again", x.countedBy(2, 0, 0), 1);
     }
 
     public static void main(String[] args) {

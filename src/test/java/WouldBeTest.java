@@ -38,7 +38,10 @@ public final class WouldBeTest {
         due.is("its value", x.ifPut(0, 2, 2, 1, 0), 6);
         x.put(0, 2, 0, 4, 0);
         due.is("a column sum below then starts above", x.ifPut(0, 1, 0, 3, 1), 2);
-        due.is("no cell to tell of: a table", x.ifPut(0, 1, 1, 1, 0), -1);
+        x.undo();
+        x.put(0, 0, 0, 6, 0);
+        due.is("the sum in the first cell", x.ifPut(0, 0, 1, 7, 1), 3);
+        x.undo();
         x.span(0, 2, 0, 1, 2);
         for (int what = 0; what <= 2; what++) {
             due.is("no cell", x.ifPut(0, 2, 1, 1, what), -1);
@@ -78,6 +81,12 @@ public final class WouldBeTest {
         due.is("a sum in the table 2", x.countedBy(2, 1, 0), 0);
         x.span(0, 1, 1, 1, 2);
         due.is("no cell", x.countedBy(0, 1, 2), -1);
+        NestedSums deep = new NestedSums();
+        deep.put(0, 0, 1, 5, 0);
+        for (int table = 0; table < 4; table++) {
+            deep.nest(table, 0, 0, 1, 1);
+        }
+        due.is("four tables within", deep.countedBy(4, 0, 0), 1);
         NestedSums y = new NestedSums();
         y.begin(3, 4);
         y.span(0, 0, 0, 1, 3);
@@ -267,6 +276,16 @@ public final class WouldBeTest {
         Due.type(y, "0a1=1;~");
         due.is("with a table", y.digest(), told(y, 3, "0a1=1;~"));
         due.is("told twice", y.digest(), y.digest());
+        NestedSums sums = new NestedSums();
+        sums.put(0, 0, 0, 6, 0);
+        sums.put(0, 0, 1, 6, 0);
+        sums.put(0, 2, 2, 1, 3);
+        due.is("a sum changes that is not the first cell", sums.ifPut(0, 0, 0, 77, 1), 1);
+        due.is("sums in the first cells", sums.digest(), told(sums, 10, ""));
+        sums.put(0, 0, 1, 0, 0);
+        due.is("a sum in the first cell", sums.digest(), told(sums, 10, ""));
+        NestedSums heights = tower(3);
+        due.is("other heights for one and two pages", heights.digest(), told(heights, 10, ""));
         y.nest(0, 2, 2, 5, 5);
         for (int square = 0; square < 25; square++) {
             due.is("share " + y.filledShare(), y.digest(), told(y, 3, "0a1=1;~"));

@@ -8,17 +8,6 @@ public final class LooksTest {
     private LooksTest() {
     }
 
-    /** Puts numbers by rows; 0 leaves a cell as it is. */
-    private static void numbers(NestedSums x, int table, int[][] rows) {
-        for (int r = 0; r < rows.length; r++) {
-            for (int c = 0; c < rows[r].length; c++) {
-                if (rows[r][c] != 0) {
-                    x.put(table, r, c, 1, rows[r][c]);
-                }
-            }
-        }
-    }
-
     private static void promise13Cell(Due due) {
         due.at("promise 13");
         NestedSums x = new NestedSums();
@@ -59,7 +48,7 @@ public final class LooksTest {
     private static void columnSums(Due due) {
         NestedSums x = new NestedSums();
         x.begin(5, 5);
-        numbers(x, 0, new int[][] {{1, 2, 3, 4, 0}, {10, 20, 30, 40, 50}, {0, 0, 0, 400, 0}, {100, 200, 0, 0, 500}});
+        Build.numbers(x, 0, new int[][] {{1, 2, 3, 4, 0}, {10, 20, 30, 40, 50}, {0, 0, 0, 400, 0}, {100, 200, 0, 0, 500}});
         x.span(0, 2, 0, 1, 2);
         x.put(0, 2, 0, 4, 0);
         x.put(0, 4, 0, 4, 0);
@@ -101,7 +90,7 @@ public final class LooksTest {
     private static void rowSums(Due due) {
         NestedSums x = new NestedSums();
         x.begin(5, 5);
-        numbers(x, 0, new int[][] {{1, 10, 0, 100}, {2, 20, 0, 200}, {3, 30}, {4, 40, 400}, {0, 50, 0, 500}});
+        Build.numbers(x, 0, new int[][] {{1, 10, 0, 100}, {2, 20, 0, 200}, {3, 30}, {4, 40, 400}, {0, 50, 0, 500}});
         x.span(0, 0, 2, 2, 1);
         x.put(0, 0, 2, 5, 0);
         x.put(0, 0, 4, 5, 0);

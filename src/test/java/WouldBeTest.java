@@ -189,83 +189,24 @@ public final class WouldBeTest {
         due.sameDouble("all", x.filledShare(), 1.0);
     }
 
-    private static long hash(long... values) {
-        long hash = 2887;
-        for (long value : values) {
-            hash = 31 * hash + value;
-        }
-        return hash;
-    }
-
-    private static int add(long[] values, int length, long value) {
-        values[length] = value;
-        return length + 1;
-    }
-
-    /** The list of the promise, told by the other calls. */
-    private static long told(NestedSums x, int setting, String buffer) {
-        long[] values = new long[4000];
-        int n = 0;
-        for (int what = 0; what <= 12; what++) {
-            n = add(values, n, x.count(what));
-        }
-        n = add(values, n, setting);
-        for (int table = 0; table < x.count(0); table++) {
-            for (int what = 0; what <= 7; what++) {
-                n = add(values, n, x.table(table, what));
-            }
-            for (int column = 0; column < x.table(table, 1); column++) {
-                n = add(values, n, x.size(table, false, column));
-            }
-            for (int row = 0; row < x.table(table, 0); row++) {
-                n = add(values, n, x.size(table, true, row));
-            }
-            for (int square = 0; square < x.table(table, 0) * x.table(table, 1); square++) {
-                int row = square / x.table(table, 1);
-                int column = square % x.table(table, 1);
-                for (int what = 0; what <= 11; what++) {
-                    n = add(values, n, x.cell(table, row, column, what));
-                }
-                for (int side = 0; side <= 3; side++) {
-                    n = add(values, n, x.edge(table, row, column, side));
-                }
-                n = add(values, n, x.countedBy(table, row, column));
-            }
-        }
-        for (int row = 0; row < x.table(0, 0); row++) {
-            n = add(values, n, x.page(row));
-        }
-        for (int what = 0; what <= 2; what++) {
-            n = add(values, n, x.ifPut(0, 0, 0, 77, what));
-        }
-        n = add(values, n, x.heightFor(1));
-        n = add(values, n, x.heightFor(2));
-        n = add(values, n, Double.doubleToLongBits(x.filledShare()));
-        n = add(values, n, buffer.length());
-        for (int k = 0; k < buffer.length(); k++) {
-            n = add(values, n, buffer.charAt(k));
-        }
-        return hash(java.util.Arrays.copyOf(values, n));
-    }
-
     private static void promise23Digest(Due due) {
         due.at("promise 23");
         NestedSums x = new NestedSums();
         x.begin(1, 1);
         x.undo();
         x.begin(1, 1);
-        due.is("one empty square", x.digest(), hash(1, 1, 1, 0, 0, 0, 0, 0, 0, 1, 0, 0, 1, 10,
+        due.is("one empty square", x.digest(), DigestList.hash(1, 1, 1, 0, 0, 0, 0, 0, 0, 1, 0, 0, 1, 10,
                 1, 1, 0, 0, 0, 0, 0, -1, 0, 0, 0, 0, 0, 1, 1, 0, 0, -1, 0, 0, 0, 0, 0, 0, 0, 0, 0,
                 0, 77, 0, 2, 1, 1, 0, 0));
         x.put(0, 0, 0, 1, -5);
         x.rule(0, 0, 0, 1, 3);
         x.set(12);
         Due.type(x, "0a");
-        due.is("one number with a rule", x.digest(), hash(1, 1, 0, 1, 0, 0, 0, 0, 0, 1, 1, 0, 4, 12,
+        due.is("one number with a rule", x.digest(), DigestList.hash(1, 1, 0, 1, 0, 0, 0, 0, 0, 1, 1, 0, 4, 12,
                 1, 1, -5, 3, 1, 1, 0, -1, 2, 1, 1, -5, -5, 1, 1, 2, 1, -1, 0, 3, 0, 0, 0, 3, 0, 0, 0,
                 0, 77, 0, 3, 1, 1, 0x3ff0000000000000L, 2, 48, 97));
         NestedSums y = new NestedSums();
-        due.is("a new object", y.digest(), told(y, 10, ""));
+        due.is("a new object", y.digest(), DigestList.told(y, 10, ""));
         y.span(0, 0, 0, 2, 2);
         y.nest(0, 0, 0, 2, 3);
         y.put(1, 0, 0, 1, 12);
@@ -274,21 +215,21 @@ public final class WouldBeTest {
         y.put(0, 2, 1, 4, 0);
         y.set(3);
         Due.type(y, "0a1=1;~");
-        due.is("with a table", y.digest(), told(y, 3, "0a1=1;~"));
+        due.is("with a table", y.digest(), DigestList.told(y, 3, "0a1=1;~"));
         due.is("told twice", y.digest(), y.digest());
         NestedSums sums = new NestedSums();
         sums.put(0, 0, 0, 6, 0);
         sums.put(0, 0, 1, 6, 0);
         sums.put(0, 2, 2, 1, 3);
         due.is("a sum changes that is not the first cell", sums.ifPut(0, 0, 0, 77, 1), 1);
-        due.is("sums in the first cells", sums.digest(), told(sums, 10, ""));
+        due.is("sums in the first cells", sums.digest(), DigestList.told(sums, 10, ""));
         sums.put(0, 0, 1, 0, 0);
-        due.is("a sum in the first cell", sums.digest(), told(sums, 10, ""));
+        due.is("a sum in the first cell", sums.digest(), DigestList.told(sums, 10, ""));
         NestedSums heights = tower(3);
-        due.is("other heights for one and two pages", heights.digest(), told(heights, 10, ""));
+        due.is("other heights for one and two pages", heights.digest(), DigestList.told(heights, 10, ""));
         y.nest(0, 2, 2, 5, 5);
         for (int square = 0; square < 25; square++) {
-            due.is("share " + y.filledShare(), y.digest(), told(y, 3, "0a1=1;~"));
+            due.is("share " + y.filledShare(), y.digest(), DigestList.told(y, 3, "0a1=1;~"));
             y.put(2, square / 5, square % 5, 1 + square % 2, 1 + square % 12);
         }
     }

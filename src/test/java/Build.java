@@ -5,6 +5,8 @@ final class Build {
     static final Class<IllegalStateException> STATE = IllegalStateException.class;
     static final int LEAST = Integer.MIN_VALUE;
     static final int MOST = Integer.MAX_VALUE;
+    /** The row and column of the square on each side, beside that of a square. */
+    static final int[][] STEPS = {{-1, 0}, {0, 1}, {1, 0}, {0, -1}};
 
     private Build() {
     }
@@ -62,7 +64,7 @@ final class Build {
         return x;
     }
 
-    /** The table 1, of 2 rows and 5 columns, in the middle of the table 0, where the square 1 of the row 2 is no cell. */
+    /** The table 1, of 2 rows and 5 columns, in the middle of the table 0, whose row 2, column 1 is no cell. */
     static NestedSums places() {
         NestedSums x = new NestedSums();
         x.nest(0, 1, 1, 2, 5);
@@ -72,9 +74,10 @@ final class Build {
 
     /** The call throws if a table, a row or a column is just or far beyond what there is, and not at the last ones. */
     static void outside(Due due, Place call) {
-        int[][] outside = {{-1, 0, 0}, {2, 0, 0}, {5, 0, 0}, {LEAST, 0, 0}, {MOST, 0, 0}, {0, -1, 0}, {0, 3, 0}, {0, LEAST, 0},
-                {0, MOST, 0}, {0, 0, -1}, {0, 0, 3}, {0, 0, LEAST}, {0, 0, MOST}, {1, 2, 0}, {1, 0, 5}, {1, -1, 0}, {1, 0, -1},
-                {0, 1, 4}, {1, 2, 2}, {LEAST, LEAST, LEAST}, {MOST, MOST, MOST}};
+        int[][] outside = {{-1, 0, 0}, {2, 0, 0}, {5, 0, 0}, {LEAST, 0, 0}, {MOST, 0, 0},
+                {0, -1, 0}, {0, 3, 0}, {0, LEAST, 0}, {0, MOST, 0}, {0, 0, -1}, {0, 0, 3}, {0, 0, LEAST}, {0, 0, MOST},
+                {1, 2, 0}, {1, 0, 5}, {1, -1, 0}, {1, 0, -1}, {0, 1, 4}, {1, 2, 2},
+                {LEAST, LEAST, LEAST}, {MOST, MOST, MOST}};
         NestedSums x = places();
         for (int[] at : outside) {
             due.refuses(x, OUTSIDE, told(at), () -> call.on(x, at[0], at[1], at[2]));

@@ -5,9 +5,9 @@ import java.util.List;
 
 /** What of ../shared/LANGUAGE.md can be seen from the lines of src/main/java/NestedSums.java. */
 public final class LanguageTest {
-    private static final String[] FORBIDDEN = {"->", "::", "Double.", "Float.", "Exact(", "finally", "try {", "try (", "catch (",
-        "synchronized", "assert", "instanceof", "hashCode", "toString", "System.out", "nanoTime", "Random", "Thread",
-        "protected", "package ", "lambda", "while (true)", "for (;;)", "@"};
+    private static final String[] FORBIDDEN = {"->", "::", "Double.", "Float.", "Exact(", "finally", "try {", "try (",
+        "catch (", "synchronized", "assert", "instanceof", "hashCode", "toString", "System.out", "nanoTime", "Random",
+        "Thread", "protected", "package ", "lambda", "while (true)", "for (;;)", "@"};
     private static final int LONGEST_METHOD = 60;
 
     private LanguageTest() {

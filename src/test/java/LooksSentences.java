@@ -111,7 +111,8 @@ final class LooksSentences {
         });
         for (int side = 0; side <= 3; side++) {
             int at = side;
-            s.holds("8 to 11: its rules by the sides 0 to 3, with those of a table in it", "what is " + (8 + at), due -> {
+            s.holds("8 to 11: its rules by the sides 0 to 3, with those of a table in it",
+                    "what is " + (8 + at), due -> {
                 NestedSums x = new NestedSums();
                 x.rule(0, 1, 1, at, 1);
                 for (int other = 0; other <= 3; other++) {
@@ -120,7 +121,7 @@ final class LooksSentences {
                 x.nest(0, 1, 1, 1, 1);
                 x.rule(1, 0, 0, at, 3);
                 due.is("with that of the table", x.cell(0, 1, 1, 8 + at), 3);
-                x.rule(0, 1 - (at == 0 ? 1 : 0) + (at == 2 ? 1 : 0), 1 + (at == 1 ? 1 : 0) - (at == 3 ? 1 : 0), (at + 2) % 4, 2);
+                x.rule(0, 1 + Build.STEPS[at][0], 1 + Build.STEPS[at][1], (at + 2) % 4, 2);
                 x.rule(1, 0, 0, at, 0);
                 due.is("without that of the neighbour", x.cell(0, 1, 1, 8 + at), 1);
             });
@@ -227,7 +228,8 @@ final class LooksSentences {
             x.rule(0, 0, 2, 2, 1);
             due.is("with a line", x.table(0, 4), 3);
         });
-        s.holds("7: the table in which it is, NONE for the table 0", "each of five, in another and in the same", due -> {
+        s.holds("7: the table in which it is, NONE for the table 0",
+                "each of five, in another and in the same", due -> {
             NestedSums chain = Build.chain(5);
             for (int table = 0; table <= 4; table++) {
                 due.is("table " + table, chain.table(table, 7), table - 1);
@@ -288,7 +290,8 @@ final class LooksSentences {
             due.is("the last of five", five.table(4, 0), 1);
             due.refusesEach(five, Build.OUTSIDE, "the table", table -> five.table(table, 0), -1, 5);
         });
-        s.holds("Throws `IllegalArgumentException` if what is not 0 to 7", "the least, the greatest, and those beyond", due -> {
+        s.holds("Throws `IllegalArgumentException` if what is not 0 to 7",
+                "the least, the greatest, and those beyond", due -> {
             NestedSums x = new NestedSums();
             due.accepts("the least", () -> x.table(0, 0));
             due.accepts("the greatest", () -> x.table(0, 7));
@@ -364,7 +367,8 @@ final class LooksSentences {
             x.undo();
             due.is("undone", x.page(4), 0);
         });
-        s.holds("Returns the page of a row of the table 0.", "each row of a block is on the page of all of them", due -> {
+        s.holds("Returns the page of a row of the table 0.",
+                "each row of a block is on the page of all of them", due -> {
             NestedSums x = Build.grid(4, 2);
             Build.numbers(x, 0, new int[][] {{1}, {1}, {1}, {1}});
             x.span(0, 1, 1, 2, 1);
@@ -389,7 +393,8 @@ final class LooksSentences {
                 due.refusesEach(x, Build.OUTSIDE, "of " + rows + " rows, the row", x::page, -1, rows, 5);
             }
         });
-        s.holds("Throws `IndexOutOfBoundsException` if there is no such row", "a table within that has more rows does not matter", due -> {
+        s.holds("Throws `IndexOutOfBoundsException` if there is no such row",
+                "a table within that has more rows does not matter", due -> {
             NestedSums x = Build.grid(2, 2);
             x.nest(0, 1, 1, 5, 1);
             due.refuses(x, Build.OUTSIDE, "the row 2", () -> x.page(2));
@@ -470,7 +475,8 @@ final class LooksSentences {
             x.undo();
             due.is("after undo", x.count(12), 5);
         });
-        s.holds("Throws `IllegalArgumentException` if what is not 0 to 12", "the least, the greatest, and those beyond", due -> {
+        s.holds("Throws `IllegalArgumentException` if what is not 0 to 12",
+                "the least, the greatest, and those beyond", due -> {
             NestedSums x = new NestedSums();
             due.accepts("the least", () -> x.count(0));
             due.accepts("the greatest", () -> x.count(12));

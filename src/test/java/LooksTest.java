@@ -48,7 +48,8 @@ public final class LooksTest {
     private static void columnSums(Due due) {
         NestedSums x = new NestedSums();
         x.begin(5, 5);
-        Build.numbers(x, 0, new int[][] {{1, 2, 3, 4, 0}, {10, 20, 30, 40, 50}, {0, 0, 0, 400, 0}, {100, 200, 0, 0, 500}});
+        Build.numbers(x, 0,
+                new int[][] {{1, 2, 3, 4, 0}, {10, 20, 30, 40, 50}, {0, 0, 0, 400, 0}, {100, 200, 0, 0, 500}});
         x.span(0, 2, 0, 1, 2);
         x.put(0, 2, 0, 4, 0);
         x.put(0, 4, 0, 4, 0);

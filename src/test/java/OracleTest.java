@@ -66,7 +66,8 @@ public final class OracleTest {
                 break;
             case 1:
             case 2:
-                due.same("nest", answer(() -> x.nest(t, r, c, a + 1, b + 1)), answer(() -> o.nest(t, r, c, a + 1, b + 1)));
+                due.same("nest", answer(() -> x.nest(t, r, c, a + 1, b + 1)),
+                        answer(() -> o.nest(t, r, c, a + 1, b + 1)));
                 break;
             case 3:
             case 4:

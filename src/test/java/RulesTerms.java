@@ -1,7 +1,5 @@
 /** Tests of the terms that hold for all promises: rules of cells and edges, and the lines that they make. */
 final class RulesTerms {
-    private static final int[][] STEPS = {{-1, 0}, {0, 1}, {1, 0}, {0, -1}};
-
     private RulesTerms() {
     }
 
@@ -14,7 +12,8 @@ final class RulesTerms {
     }
 
     private static void cells(Sentences s) {
-        s.holds("Each cell has a rule for each side, 0 to 3 (0: none), at first 0", "at first, in old and new tables", due -> {
+        s.holds("Each cell has a rule for each side, 0 to 3 (0: none), at first 0",
+                "at first, in old and new tables", due -> {
             NestedSums x = new NestedSums();
             x.nest(0, 1, 1, 1, 1);
             for (int side = 0; side <= 3; side++) {
@@ -23,7 +22,8 @@ final class RulesTerms {
                 due.is("of a cell in it", x.cell(1, 0, 0, 8 + side), 0);
             }
         });
-        s.holds("Each cell has a rule for each side, 0 to 3 (0: none), at first 0", "the greatest, none, and those beyond", due -> {
+        s.holds("Each cell has a rule for each side, 0 to 3 (0: none), at first 0",
+                "the greatest, none, and those beyond", due -> {
             NestedSums x = new NestedSums();
             for (int side = 0; side <= 3; side++) {
                 int at = side;
@@ -41,7 +41,7 @@ final class RulesTerms {
                 x.rule(0, 1, 1, at, 2);
                 for (int other = 0; other <= 3; other++) {
                     due.is("the cell's rule " + other, x.cell(0, 1, 1, 8 + other), other == at ? 2 : 0);
-                    int facing = x.edge(0, 1 + STEPS[other][0], 1 + STEPS[other][1], (other + 2) % 4);
+                    int facing = x.edge(0, 1 + Build.STEPS[other][0], 1 + Build.STEPS[other][1], (other + 2) % 4);
                     due.is("seen from the neighbour on the side " + other, facing, other == at ? 2 : 0);
                 }
             });
@@ -57,8 +57,8 @@ final class RulesTerms {
                     NestedSums x = new NestedSums();
                     x.nest(0, 1, 1, 3, 3);
                     x.rule(1, square / 3, square % 3, at, 2);
-                    int beside = square / 3 + STEPS[at][0];
-                    int besideColumn = square % 3 + STEPS[at][1];
+                    int beside = square / 3 + Build.STEPS[at][0];
+                    int besideColumn = square % 3 + Build.STEPS[at][1];
                     boolean isBorder = beside < 0 || beside > 2 || besideColumn < 0 || besideColumn > 2;
                     for (int other = 0; other <= 3; other++) {
                         due.is("square " + square + ", rule " + other, x.cell(0, 1, 1, 8 + other),
@@ -126,8 +126,8 @@ final class RulesTerms {
         for (int side = 0; side <= 3; side++) {
             int at = side;
             s.holds(greater, "side " + at + ", whichever has the greater one", due -> {
-                int row = 1 + STEPS[at][0];
-                int column = 1 + STEPS[at][1];
+                int row = 1 + Build.STEPS[at][0];
+                int column = 1 + Build.STEPS[at][1];
                 int facing = (at + 2) % 4;
                 for (int own = 0; own <= 3; own++) {
                     for (int other = 0; other <= 3; other++) {
@@ -198,7 +198,8 @@ final class RulesTerms {
     }
 
     private static void lines(Sentences s) {
-        String across = "The edges of a table between two columns (or at its border) that are one below the other make a line";
+        String across = "The edges of a table between two columns (or at its border) that are one below the other "
+                + "make a line";
         for (int line = 0; line <= 5; line++) {
             int at = line;
             s.holds(across, "the line " + at + " of six, by one edge in any row", due -> {

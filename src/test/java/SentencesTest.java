@@ -1,4 +1,4 @@
-/** Each sentence of the document that names a boundary case, by a test of its own; "list" as argument tells them all. */
+/** Each sentence of the document that names a boundary case, by a test of its own; the argument "list" tells them. */
 public final class SentencesTest {
     private SentencesTest() {
     }

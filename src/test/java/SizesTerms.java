@@ -18,7 +18,8 @@ final class SizesTerms {
     }
 
     private static void contents(Sentences s) {
-        s.holds("The width of what is in a cell is: 0 for an empty one", "also with rules, and with more columns", due -> {
+        s.holds("The width of what is in a cell is: 0 for an empty one",
+                "also with rules, and with more columns", due -> {
             NestedSums x = new NestedSums();
             x.span(0, 0, 0, 1, 3);
             x.rule(0, 0, 0, 1, 3);
@@ -119,7 +120,8 @@ final class SizesTerms {
             due.is("the upper one's last", x.size(0, false, 2), 6);
             due.is("the first", x.size(0, false, 0), 0);
         });
-        s.holds("for each cell with more columns, by ascending rows, then columns", "the upper one gives to the lower one", due -> {
+        s.holds("for each cell with more columns, by ascending rows, then columns",
+                "the upper one gives to the lower one", due -> {
             NestedSums x = Build.grid(2, 3);
             x.span(0, 0, 0, 1, 2);
             x.put(0, 0, 0, 2, 6);
@@ -173,7 +175,8 @@ final class SizesTerms {
     }
 
     private static void tableWidths(Sentences s) {
-        String words = "The width of a table is that of its columns, and 1 for each line between columns, or at the border";
+        String words = "The width of a table is that of its columns, and 1 for each line between columns, "
+                + "or at the border";
         s.holds(words, "no lines, one, and all", due -> {
             NestedSums x = Build.grid(1, 5);
             for (int column = 0; column < 5; column++) {
@@ -420,7 +423,8 @@ final class SizesTerms {
             x.rule(1, 0, 0, 0, 1);
             due.is("a line within", x.page(1), 1);
         });
-        s.holds("Each block comes to the page where the one ahead of it is", "the first one is on the first page, however high",
+        s.holds("Each block comes to the page where the one ahead of it is",
+                "the first one is on the first page, however high",
                 due -> {
             NestedSums x = Build.grid(2, 1);
             Build.high(x, 0, 0, 5);
@@ -428,12 +432,14 @@ final class SizesTerms {
             due.is("the first", x.page(0), 0);
             due.is("pages", x.count(9), 2);
         });
-        s.holds("Each block comes to the page where the one ahead of it is", "rows without height, with any setting", due -> {
+        s.holds("Each block comes to the page where the one ahead of it is",
+                "rows without height, with any setting", due -> {
             NestedSums x = Build.grid(5, 1);
             x.set(1);
             due.is("the last row", x.page(4), 0);
         });
-        s.holds("Each block comes to the page where the one ahead of it is", "a row without height on a full page", due -> {
+        s.holds("Each block comes to the page where the one ahead of it is",
+                "a row without height on a full page", due -> {
             NestedSums x = Build.grid(3, 1);
             x.put(0, 0, 0, 1, 5);
             x.put(0, 2, 0, 1, 5);

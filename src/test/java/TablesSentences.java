@@ -382,7 +382,8 @@ final class TablesSentences {
                 due.is(told + ", its rule", x.cell(0, 1, 1, 10), 3);
             }
         });
-        s.holds("Squares that it does not cover any more are empty cells without rules", "what was there does not come back", due -> {
+        s.holds("Squares that it does not cover any more are empty cells without rules",
+                "what was there does not come back", due -> {
             NestedSums x = new NestedSums();
             for (int side = 0; side <= 3; side++) {
                 x.rule(0, 1, 1, side, 3);
@@ -400,7 +401,8 @@ final class TablesSentences {
                 }
             }
         });
-        s.holds("Squares that it does not cover any more are empty cells without rules", "those that it covers stay covered", due -> {
+        s.holds("Squares that it does not cover any more are empty cells without rules",
+                "those that it covers stay covered", due -> {
             NestedSums x = Build.grid(3, 3);
             x.span(0, 0, 0, 3, 2);
             x.span(0, 0, 0, 2, 3);
@@ -463,7 +465,8 @@ final class TablesSentences {
             due.is("five columns", x.span(1, 0, 0, 1, 5), 5);
             due.refuses(x, Build.OUTSIDE, "three rows", () -> x.span(1, 0, 0, 3, 1));
         });
-        s.holds("Throws `IllegalArgumentException` if rows or columns is out of range", "also if the other would not be within", due -> {
+        s.holds("Throws `IllegalArgumentException` if rows or columns is out of range",
+                "also if the other would not be within", due -> {
             NestedSums x = new NestedSums();
             due.refuses(x, Build.ARGUMENT, "no rows, five columns", () -> x.span(0, 2, 2, 0, 5));
             due.refuses(x, Build.ARGUMENT, "five rows, no columns", () -> x.span(0, 2, 2, 5, 0));

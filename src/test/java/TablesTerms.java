@@ -112,7 +112,8 @@ final class TablesTerms {
             }
             due.refuses(x, Build.STATE, "a word in no cell", () -> x.put(0, 2, 2, 2, 1));
         });
-        s.holds("A table within a cell has a greater number than the table of that cell.", "also after others went", due -> {
+        s.holds("A table within a cell has a greater number than the table of that cell.",
+                "also after others went", due -> {
             NestedSums x = new NestedSums();
             due.is("the first", x.nest(0, 2, 2, 2, 2), 1);
             due.is("the second", x.nest(0, 0, 0, 2, 2), 2);
@@ -211,7 +212,8 @@ final class TablesTerms {
             }
             due.is("together", x.table(0, 2), 5);
         });
-        s.holds("The value of a table is that of all its cells together.", "no cell, the first and last, and all", due -> {
+        s.holds("The value of a table is that of all its cells together.",
+                "no cell, the first and last, and all", due -> {
             NestedSums x = Build.grid(5, 5);
             due.is("none", x.table(0, 2), 0);
             x.put(0, 0, 0, 1, 1);
@@ -343,6 +345,20 @@ final class TablesTerms {
             x.put(0, 2, 0, 4, 0);
             due.is("the upper sum", x.cell(0, 2, 0, 2), 21);
         });
+        s.holds(greatest, "when the nearest one goes, the next above, and back", due -> {
+            NestedSums x = Build.grid(5, 1);
+            Build.numbers(x, 0, new int[][] {{1}, {0}, {0}, {300}});
+            x.put(0, 1, 0, 4, 0);
+            x.put(0, 2, 0, 4, 0);
+            x.put(0, 4, 0, 4, 0);
+            x.put(0, 2, 0, 1, 20);
+            due.is("without the nearest one", x.cell(0, 4, 0, 2), 320);
+            x.put(0, 1, 0, 0, 0);
+            due.is("without both", x.cell(0, 4, 0, 2), 321);
+            x.undo();
+            x.undo();
+            due.is("with both again", x.cell(0, 4, 0, 2), 300);
+        });
         String all = "of all column sums that have a square in one of its columns";
         s.holds(all, "one in the column beside it is not meant", due -> {
             NestedSums x = Build.grid(4, 3);
@@ -433,7 +449,8 @@ final class TablesTerms {
             due.is("the nearest one", x.cell(0, 0, 1, 2), 1);
             due.is("the sum", x.cell(0, 0, 3, 2), 310);
         });
-        s.holds("up to the nearest row sum", "a cell that begins ahead of it and ends behind it is not counted", due -> {
+        s.holds("up to the nearest row sum",
+                "a cell that begins ahead of it and ends behind it is not counted", due -> {
             NestedSums x = Build.grid(2, 4);
             Build.wide(x, 1, 0, 1, 3, 5);
             x.put(0, 0, 1, 5, 0);
@@ -456,6 +473,20 @@ final class TablesTerms {
             x.span(0, 0, 4, 2, 1);
             x.put(0, 0, 4, 5, 0);
             due.is("the sum", x.cell(0, 0, 4, 2), 700);
+        });
+        s.holds(words, "when the nearest one goes, the next to the left, and back", due -> {
+            NestedSums x = Build.grid(1, 5);
+            Build.numbers(x, 0, new int[][] {{1, 0, 0, 300}});
+            x.put(0, 0, 1, 5, 0);
+            x.put(0, 0, 2, 5, 0);
+            x.put(0, 0, 4, 5, 0);
+            x.put(0, 0, 2, 1, 20);
+            due.is("without the nearest one", x.cell(0, 0, 4, 2), 320);
+            x.put(0, 0, 1, 0, 0);
+            due.is("without both", x.cell(0, 0, 4, 2), 321);
+            x.undo();
+            x.undo();
+            due.is("with both again", x.cell(0, 0, 4, 2), 300);
         });
         s.holds(words, "by the first column of a wide one, not by its last", due -> {
             NestedSums x = Build.grid(2, 5);
@@ -507,7 +538,8 @@ final class TablesTerms {
     }
 
     private static void tableSums(Sentences s) {
-        s.holds("A table sum shows the value of its table.", "in the first and last cell, of an empty and a filled one", due -> {
+        s.holds("A table sum shows the value of its table.",
+                "in the first and last cell, of an empty and a filled one", due -> {
             NestedSums x = new NestedSums();
             x.put(0, 0, 0, 6, 0);
             x.put(0, 2, 2, 6, 0);

@@ -30,7 +30,8 @@ final class TextsSentences {
             x.run();
             due.is("the number", x.cell(0, 1, 2, 1), -4);
         });
-        s.holds("Appends a character to the buffer.", "any character, also where it is an error, and each counts", due -> {
+        s.holds("Appends a character to the buffer.",
+                "any character, also where it is an error, and each counts", due -> {
             long none = new NestedSums().digest();
             for (int code = 33; code <= 126; code++) {
                 NestedSums x = new NestedSums();
@@ -101,17 +102,20 @@ final class TextsSentences {
             due.is("again", x.firstError(), 6);
             due.is("the buffer", x.clearBuffer(), 9);
         });
-        s.holds("Returns the index of the first character that is a syntax error", "the first, the 60th, and one of more", due -> {
+        s.holds("Returns the index of the first character that is a syntax error",
+                "the first, the 60th, and one of more", due -> {
             due.is("the first", typed("x").firstError(), 0);
             due.is("the 60th", typed(FULL.substring(0, 59) + "x").firstError(), 59);
             due.is("the first of three", typed("0a1=01=01;x").firstError(), 5);
             due.is("though good orders follow", typed("0x;0a1=5").firstError(), 1);
         });
-        s.holds("Returns the index of the first character that is a syntax error", "an order that run would not do is none", due -> {
+        s.holds("Returns the index of the first character that is a syntax error",
+                "an order that run would not do is none", due -> {
             due.is("a table that is not there", typed("4a1=5").firstError(), 5);
             due.is("a square that is not there", typed("0e5=5").firstError(), 5);
         });
-        s.holds("the length of the buffer if there is none.", "none, whole orders, orders that are not ended, and 60", due -> {
+        s.holds("the length of the buffer if there is none.",
+                "none, whole orders, orders that are not ended, and 60", due -> {
             due.is("no character", typed("").firstError(), 0);
             due.is("whole orders", typed("0a1=5;0b1!").firstError(), 10);
             due.is("not ended", typed("0a1=5;0").firstError(), 7);
@@ -121,7 +125,8 @@ final class TextsSentences {
 
     private static void run(Sentences s) {
         s.promise(11);
-        s.holds("Does the orders in the buffer as put() does, one after the other", "later ones in place of earlier ones", due -> {
+        s.holds("Does the orders in the buffer as put() does, one after the other",
+                "later ones in place of earlier ones", due -> {
             NestedSums x = typed("0a1=5;0a1=6;0a1w3;0a1=-7");
             due.is("run", x.run(), 4);
             due.is("the number", x.cell(0, 0, 0, 1), -7);
@@ -138,7 +143,8 @@ final class TextsSentences {
                 due.twins("after " + texts[k], x, y);
             }
         });
-        s.holds("Does the orders in the buffer as put() does", "the column by its letter, the row by its digit", due -> {
+        s.holds("Does the orders in the buffer as put() does",
+                "the column by its letter, the row by its digit", due -> {
             NestedSums x = Build.grid(2, 5);
             Due.type(x, "0e1=5;0a2=6");
             due.is("run", x.run(), 2);
@@ -159,7 +165,8 @@ final class TextsSentences {
                 due.is("the next character", x.append('0'), 1);
             }
         });
-        s.holds("Throws `IllegalArgumentException` if the buffer does not tell orders as a text", "nothing, an end that is missing", due -> {
+        s.holds("Throws `IllegalArgumentException` if the buffer does not tell orders as a text",
+                "nothing, an end that is missing", due -> {
             String[] texts = {"", "0", "0a", "0a1", "0a1=", "0a1=-", "0a1w", "0a1!;", "0a1!;0", "0a1=5;0a1=-", FULL};
             for (String text : texts) {
                 NestedSums x = typed(text);
@@ -167,8 +174,10 @@ final class TextsSentences {
                 due.is("the buffer of " + text, x.clearBuffer(), text.length());
             }
         });
-        s.holds("Throws `IllegalArgumentException` if the buffer does not tell orders as a text", "an error, first, last, or behind orders", due -> {
-            for (String text : new String[] {"x", ";0a1!", "0a1=1000", "0a1w13", "0a1=01", "0a1=5;x", "0a1=5;;0a1=6", "5a1=5"}) {
+        s.holds("Throws `IllegalArgumentException` if the buffer does not tell orders as a text",
+                "an error, first, last, or behind orders", due -> {
+            String[] texts = {"x", ";0a1!", "0a1=1000", "0a1w13", "0a1=01", "0a1=5;x", "0a1=5;;0a1=6", "5a1=5"};
+            for (String text : texts) {
                 NestedSums x = typed(text);
                 due.refuses(x, Build.ARGUMENT, "run of " + text, x::run);
                 due.is("no order is done of " + text, x.count(2), 9);
@@ -292,7 +301,8 @@ final class TextsSentences {
             due.is("its number", x.cell(1, 1, 4, 1), 88);
             due.is("its columns", x.table(1, 1), 5);
         });
-        s.holds("Restores the latest saved state, and drops it.", "what comes after it does not change what is saved", due -> {
+        s.holds("Restores the latest saved state, and drops it.",
+                "what comes after it does not change what is saved", due -> {
             NestedSums x = new NestedSums();
             x.put(0, 0, 0, 1, 1);
             x.put(0, 0, 0, 1, 2);

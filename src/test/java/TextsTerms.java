@@ -167,10 +167,11 @@ final class TextsTerms {
             error(due, "0a1=5x;0f", 5);
             error(due, "0a1w13;0a1=1000", 5);
         });
-        String words = "a character is a syntax error if no orders as a text, of any length, begin with the characters before it "
-                + "and this character.";
+        String words = "a character is a syntax error if no orders as a text, of any length, begin with the characters "
+                + "before it and this character.";
         s.holds(words, "an order that is not ended is none", due -> {
-            for (String text : new String[] {"", "0", "0a", "0a1", "0a1=", "0a1=-", "0a1=5", "0a1w", "0a1w1", "0a1!;", "0a1!;4"}) {
+            String[] texts = {"", "0", "0a", "0a1", "0a1=", "0a1=-", "0a1=5", "0a1w", "0a1w1", "0a1!;", "0a1!;4"};
+            for (String text : texts) {
                 error(due, text, text.length());
             }
         });
@@ -183,7 +184,8 @@ final class TextsTerms {
             error(due, "0a1=1;".repeat(9) + "0a1=1,", 59);
             error(due, "0a1!;".repeat(11) + "0c3=;", 59);
         });
-        s.holds("begin with the characters before it and this character", "signs beside those that may stand there", due -> {
+        s.holds("begin with the characters before it and this character",
+                "signs beside those that may stand there", due -> {
             for (String digits : new String[] {"0a1=", "0a1=-", "0a1=1", "0a1=12", "0a1w", "0a1w1"}) {
                 wrongAtEnd(due, digits + "/", digits + ":", digits + "!", digits + "~");
             }
@@ -191,7 +193,8 @@ final class TextsTerms {
     }
 
     private static void undo(Sentences s) {
-        String words = "Each method that is marked \"undoable\" and does not throw an exception saves the state from before it";
+        String words = "Each method that is marked \"undoable\" and does not throw an exception saves the state "
+                + "from before it";
         s.holds(words, "a call that throws saves none", due -> {
             NestedSums x = Build.places();
             Due.Call[] calls = {() -> x.begin(0, 1), () -> x.nest(0, 1, 1, 1, 1), () -> x.put(0, 0, 0, 3, 1),
@@ -220,8 +223,8 @@ final class TextsTerms {
         });
         s.holds("(also if it changes nothing)", "each of the undoable calls", due -> {
             NestedSums x = new NestedSums();
-            Due.Call[] calls = {() -> x.put(0, 0, 0, 0, 0), () -> x.span(0, 1, 1, 1, 1), () -> x.rule(0, 2, 2, 3, 0), () -> x.set(10),
-                    () -> x.begin(3, 3)};
+            Due.Call[] calls = {() -> x.put(0, 0, 0, 0, 0), () -> x.span(0, 1, 1, 1, 1), () -> x.rule(0, 2, 2, 3, 0),
+                    () -> x.set(10), () -> x.begin(3, 3)};
             for (Due.Call call : calls) {
                 due.undoes(x, "without a change", call);
             }
@@ -254,6 +257,19 @@ final class TextsTerms {
             x.undo();
             x.undo();
             due.is("the state before that", x.digest(), before);
+        });
+        s.holds("all but the buffer and the saved states.", "a table is again in the cell where it was", due -> {
+            NestedSums x = new NestedSums();
+            x.nest(0, 0, 0, 2, 2);
+            x.put(0, 0, 1, 5, 0);
+            x.nest(1, 1, 1, 1, 1);
+            x.put(1, 1, 1, 0, 0);
+            x.nest(0, 2, 2, 1, 1);
+            due.is("another one with its number", x.table(2, 7), 0);
+            x.undo();
+            x.undo();
+            due.is("the table around it", x.table(2, 7), 1);
+            due.is("who counts what is in it", x.countedBy(2, 0, 0), 1);
         });
         s.holds("all but the buffer and the saved states.", "what was undone is not saved", due -> {
             NestedSums x = new NestedSums();
@@ -307,13 +323,32 @@ final class TextsTerms {
     }
 
     private static NestedSums busy() {
-        NestedSums x = Build.places();
+        NestedSums x = new NestedSums();
+        Due.type(x, "0a1=9;0b1");
+        x.nest(0, 1, 1, 2, 5);
+        x.span(0, 2, 0, 1, 2);
         x.put(1, 0, 0, 1, 77);
         x.put(0, 2, 2, 6, 0);
         x.rule(0, 0, 0, 0, 2);
         x.rule(0, 1, 1, 3, 1);
-        Due.type(x, "0a1=9;0b1");
         return x;
+    }
+
+    /** The object is still as busy() makes it: told by calls that return what was there, as digest may be wrong too. */
+    private static void stillBusy(Due due, NestedSums x) {
+        due.is("the buffer's length", x.clearBuffer(), 9);
+        due.is("the cell's rule", x.rule(0, 1, 1, 3, 3), 1);
+        due.is("the kind of the number", x.put(1, 0, 0, 2, 4), 1);
+        due.is("the kind of the sum", x.put(0, 2, 2, 0, 0), 6);
+        due.is("the setting", x.set(9), 10);
+        for (int left = 5; left >= 2; left--) {
+            due.is("undo", x.undo(), left);
+        }
+        due.is("undo of the last rule", x.undo(), 1);
+        due.is("the rule before it", x.rule(0, 1, 1, 3, 0), 0);
+        x.undo();
+        due.is("undo of the rule before", x.undo(), 0);
+        due.is("that rule", x.rule(0, 0, 0, 0, 0), 0);
     }
 
     private static void unchanged(Sentences s, String method, Build.Place call) {
@@ -327,7 +362,8 @@ final class TextsTerms {
                     got = "an exception";
                 }
                 due.same("the call", got, "an exception");
-                due.twins("after it", x, busy());
+                due.is("the digest", x.digest(), busy().digest());
+                stillBusy(due, x);
             }
         });
     }
@@ -365,7 +401,8 @@ final class TextsTerms {
             y.span(0, 2, 0, 1, 2);
             due.twins("after all", x, y);
         });
-        s.holds("A call that throws an exception changes nothing.", "undo without a saved state, append to a full buffer", due -> {
+        s.holds("A call that throws an exception changes nothing.",
+                "undo without a saved state, append to a full buffer", due -> {
             NestedSums x = new NestedSums();
             Due.type(x, "0a1=1;".repeat(10));
             due.refuses(x, Build.STATE, "undo", x::undo);
@@ -439,7 +476,7 @@ final class TextsTerms {
                 x.page(square / 3);
                 x.count(square);
             }
-            due.twins("after them", x, busy());
+            stillBusy(due, x);
         });
         s.holds("nothing is changed.", "by ifPut, countedBy, heightFor, filledShare and digest", due -> {
             NestedSums x = busy();
@@ -455,8 +492,7 @@ final class TextsTerms {
             }
             due.is("a number stays", x.cell(1, 0, 0, 1), 77);
             due.is("a sum stays", x.cell(0, 2, 2, 2), 77);
-            due.is("no state is saved", x.count(12), 6);
-            due.twins("after them", x, busy());
+            stillBusy(due, x);
         });
     }
 }

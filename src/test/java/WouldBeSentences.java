@@ -1,4 +1,4 @@
-/** Tests of the sentences of the promises 19 to 23: what a number would bring, and what follows from the whole state. */
+/** Tests of the sentences of the promises 19 to 23: what a number would bring, who counts a cell, and the digest. */
 final class WouldBeSentences {
     private static final String NO_SQUARE = "Throws `IndexOutOfBoundsException` if there is no such table or square";
 
@@ -108,7 +108,8 @@ final class WouldBeSentences {
             x.put(0, 0, 0, 6, 0);
             due.is("in the table 0", x.ifPut(0, 2, 2, 5, 1), 1);
         });
-        s.holds("(but for this cell, if it is one)", "a sum that shows another number, and one that shows the same", due -> {
+        s.holds("(but for this cell, if it is one)",
+                "a sum that shows another number, and one that shows the same", due -> {
             NestedSums x = new NestedSums();
             x.put(0, 0, 0, 1, 5);
             x.put(0, 2, 2, 6, 0);
@@ -174,7 +175,8 @@ final class WouldBeSentences {
         });
         s.holds(NO_SQUARE, "just beyond, and far off",
                 due -> Build.outside(due, (x, table, row, column) -> x.ifPut(table, row, column, 1, 0)));
-        s.holds("Throws `IllegalArgumentException` if number or what is out of range", "one of them, also of no cell", due -> {
+        s.holds("Throws `IllegalArgumentException` if number or what is out of range",
+                "one of them, also of no cell", due -> {
             NestedSums x = Build.places();
             due.accepts("the least", () -> x.ifPut(0, 0, 0, 0, 0));
             due.accepts("the greatest", () -> x.ifPut(0, 0, 0, 0, 2));
@@ -238,7 +240,8 @@ final class WouldBeSentences {
             x.put(0, 1, 0, 4, 0);
             due.is("countedBy", x.countedBy(0, 0, 0), 1);
         });
-        s.holds(NO_SQUARE, "just beyond, and far off", due -> Build.outside(due, (x, table, row, column) -> x.countedBy(table, row, column)));
+        s.holds(NO_SQUARE,
+                "just beyond, and far off", due -> Build.outside(due, NestedSums::countedBy));
     }
 
     private static void countedAround(Sentences s) {
@@ -283,7 +286,8 @@ final class WouldBeSentences {
         });
         for (int kind = 4; kind <= 6; kind++) {
             int sum = kind;
-            s.holds("0 for a sum, whatever is around it.", "the kind " + sum + ", among other sums and within a table", due -> {
+            s.holds("0 for a sum, whatever is around it.",
+                    "the kind " + sum + ", among other sums and within a table", due -> {
                 NestedSums x = new NestedSums();
                 x.nest(0, 0, 0, 3, 3);
                 for (int table = 0; table <= 1; table++) {
@@ -319,15 +323,18 @@ final class WouldBeSentences {
 
     private static void heightFor(Sentences s) {
         s.promise(21);
-        s.holds("Finds the least height of a page with which there are at most so many pages.", "rows that are alike", due -> {
+        s.holds("Finds the least height of a page with which there are at most so many pages.",
+                "rows that are alike", due -> {
             heights(due, rows(1, 1, 1, 1, 1), 5, 3, 2, 2, 1);
             heights(due, rows(1), 1, 1, 1, 1, 1);
         });
-        s.holds("Finds the least height of a page with which there are at most so many pages.", "rows that are not", due -> {
+        s.holds("Finds the least height of a page with which there are at most so many pages.",
+                "rows that are not", due -> {
             heights(due, rows(2, 3, 1, 2, 2), 10, 5, 4, 3, 1);
             heights(due, rows(5, 1, 1, 0, 1), 8, 3, 2, 1, 1);
         });
-        s.holds("Finds the least height of a page with which there are at most so many pages.", "blocks of rows", due -> {
+        s.holds("Finds the least height of a page with which there are at most so many pages.",
+                "blocks of rows", due -> {
             NestedSums x = Build.grid(4, 2);
             Build.numbers(x, 0, new int[][] {{1}, {1}, {1}, {1}});
             x.span(0, 1, 1, 2, 1);
@@ -359,12 +366,14 @@ final class WouldBeSentences {
             due.is("the greatest", x.heightFor(5), 1);
             due.refusesEach(x, Build.ARGUMENT, "pages", x::heightFor, -1, 0, 6);
         });
-        s.holds("Returns the least setting 0, 1 to 60", "1 for rows without height, and for as many pages as rows", due -> {
+        s.holds("Returns the least setting 0, 1 to 60",
+                "1 for rows without height, and for as many pages as rows", due -> {
             heights(due, rows(0, 0, 0, 0, 0), 1, 1, 1, 1, 1);
             due.is("a high row alone", rows(5).heightFor(1), 1);
             due.is("high rows", rows(5, 5, 5, 5).heightFor(4), 1);
         });
-        s.holds("NONE if there is none.", "the highest rows that there can be are 45 together, so there is one", due -> {
+        s.holds("NONE if there is none.",
+                "the highest rows that there can be are 45 together, so there is one", due -> {
             NestedSums x = Build.grid(5, 1);
             for (int table = 1; table <= 4; table++) {
                 x.nest(table - 1, 0, 0, 5, 1);
@@ -453,8 +462,8 @@ final class WouldBeSentences {
         });
         s.holds("Computes a hash of the whole state.", "another one after each kind of change", due -> {
             NestedSums x = mixed();
-            Due.Call[] calls = {() -> x.set(9), () -> x.rule(0, 0, 0, 0, 1), () -> x.span(0, 3, 0, 1, 1), () -> x.append('!'),
-                    () -> x.put(0, 0, 0, 1, 6), () -> x.nest(0, 2, 1, 1, 1), () -> x.begin(4, 3)};
+            Due.Call[] calls = {() -> x.set(9), () -> x.rule(0, 0, 0, 0, 1), () -> x.span(0, 3, 0, 1, 1),
+                    () -> x.append('!'), () -> x.put(0, 0, 0, 1, 6), () -> x.nest(0, 2, 1, 1, 1), () -> x.begin(4, 3)};
             for (int k = 0; k < calls.length; k++) {
                 long before = x.digest();
                 calls[k].on();
@@ -467,8 +476,8 @@ final class WouldBeSentences {
                     1, 1, 0, 0, 0, 0, 0, -1, 0, 0, 0, 0, 0, 1, 1, 0, 0, -1, 0, 0, 0, 0, 0, 0, 0, 0, 0,
                     0, 77, 0, 2, 1, 1, 0, 0));
         });
-        s.holds("For each value v of the following list, in order, the hash becomes 31 * hash + v, in long arithmetic with overflow.",
-                "through a full buffer", due -> {
+        String becomes = "For each value v of the following list, in order, the hash becomes 31 * hash + v";
+        s.holds(becomes + ", in long arithmetic with overflow.", "through a full buffer", due -> {
             NestedSums x = new NestedSums();
             long hash = x.digest() + 60;
             for (int k = 0; k < 60; k++) {
@@ -477,7 +486,7 @@ final class WouldBeSentences {
             }
             due.is("60 characters", x.digest(), hash);
         });
-        s.holds("For each value v of the following list, in order, the hash becomes 31 * hash + v", "negative values too", due -> {
+        s.holds(becomes, "negative values too", due -> {
             NestedSums x = new NestedSums();
             x.put(0, 0, 0, 1, -999);
             due.is("the digest", x.digest(), DigestList.told(x, 10, ""));
@@ -511,8 +520,8 @@ final class WouldBeSentences {
     }
 
     private static void digestParts(Sentences s) {
-        String words = "for each table its properties 0 to 7, the widths of its columns, then the heights of its rows, and, for each of its "
-                + "squares, by rows, cell with 0 to 11, edge of all sides, and countedBy";
+        String words = "for each table its properties 0 to 7, the widths of its columns, then the heights of its rows, "
+                + "and, for each of its squares, by rows, cell with 0 to 11, edge of all sides, and countedBy";
         s.holds(words, "one square with a number and a rule, value by value", due -> {
             NestedSums x = Build.grid(1, 1);
             x.put(0, 0, 0, 1, -5);
@@ -575,7 +584,8 @@ final class WouldBeSentences {
                 }
             }
         });
-        s.holds("the length of the buffer and each of its character codes.", "none, the least, the greatest, and an order", due -> {
+        s.holds("the length of the buffer and each of its character codes.",
+                "none, the least, the greatest, and an order", due -> {
             for (String text : new String[] {"", "!", "~", "!~", "~!", "0a1=-999;4e5w12"}) {
                 NestedSums x = new NestedSums();
                 Due.type(x, text);

@@ -88,6 +88,16 @@ final class Build {
         }
     }
 
+    /** The call throws for each square that a cell covers beside its first one, and not for that one. */
+    static void noCell(Due due, Place call) {
+        NestedSums x = new NestedSums();
+        x.span(0, 0, 0, 2, 2);
+        due.refuses(x, STATE, "to the right", () -> call.on(x, 0, 0, 1));
+        due.refuses(x, STATE, "below", () -> call.on(x, 0, 1, 0));
+        due.refuses(x, STATE, "the last one", () -> call.on(x, 0, 1, 1));
+        due.accepts("the first one", () -> call.on(x, 0, 0, 0));
+    }
+
     private static String told(int[] at) {
         return "table " + at[0] + ", row " + at[1] + ", column " + at[2];
     }

@@ -18,37 +18,20 @@ final class DigestList {
         return length + 1;
     }
 
-    /** The list of the promise, told by the other calls. */
+    /** The list of the promise, told by the other calls: for a table of 25 squares they are fewer than 512. */
     static long told(NestedSums x, int setting, String buffer) {
         long[] values = new long[4000];
         int n = 0;
         for (int what = 0; what <= 12; what++) {
             n = add(values, n, x.count(what));
         }
+        int tables = (int) values[0];
         n = add(values, n, setting);
-        for (int table = 0; table < x.count(0); table++) {
-            for (int what = 0; what <= 7; what++) {
-                n = add(values, n, x.table(table, what));
-            }
-            for (int column = 0; column < x.table(table, 1); column++) {
-                n = add(values, n, x.size(table, false, column));
-            }
-            for (int row = 0; row < x.table(table, 0); row++) {
-                n = add(values, n, x.size(table, true, row));
-            }
-            for (int square = 0; square < x.table(table, 0) * x.table(table, 1); square++) {
-                int row = square / x.table(table, 1);
-                int column = square % x.table(table, 1);
-                for (int what = 0; what <= 11; what++) {
-                    n = add(values, n, x.cell(table, row, column, what));
-                }
-                for (int side = 0; side <= 3; side++) {
-                    n = add(values, n, x.edge(table, row, column, side));
-                }
-                n = add(values, n, x.countedBy(table, row, column));
-            }
+        for (int table = 0; table < tables; table++) {
+            n = addTable(values, n, x, table);
         }
-        for (int row = 0; row < x.table(0, 0); row++) {
+        int rows = x.table(0, 0);
+        for (int row = 0; row < rows; row++) {
             n = add(values, n, x.page(row));
         }
         for (int what = 0; what <= 2; what++) {
@@ -62,5 +45,32 @@ final class DigestList {
             n = add(values, n, buffer.charAt(k));
         }
         return hash(Arrays.copyOf(values, n));
+    }
+
+    private static int addTable(long[] values, int length, NestedSums x, int table) {
+        int n = length;
+        for (int what = 0; what <= 7; what++) {
+            n = add(values, n, x.table(table, what));
+        }
+        int rows = (int) values[length];
+        int columns = (int) values[length + 1];
+        for (int column = 0; column < columns; column++) {
+            n = add(values, n, x.size(table, false, column));
+        }
+        for (int row = 0; row < rows; row++) {
+            n = add(values, n, x.size(table, true, row));
+        }
+        for (int square = 0; square < rows * columns; square++) {
+            int row = square / columns;
+            int column = square % columns;
+            for (int what = 0; what <= 11; what++) {
+                n = add(values, n, x.cell(table, row, column, what));
+            }
+            for (int side = 0; side <= 3; side++) {
+                n = add(values, n, x.edge(table, row, column, side));
+            }
+            n = add(values, n, x.countedBy(table, row, column));
+        }
+        return n;
     }
 }

@@ -193,14 +193,8 @@ final class TablesSentences {
             due.refuses(x, Build.ARGUMENT, "columns", () -> x.nest(0, 0, 0, 5, 6));
             due.refuses(x, Build.ARGUMENT, "both", () -> x.nest(0, 0, 0, 0, 0));
         });
-        s.holds(NO_CELL, "each square beside the first one of a cell", due -> {
-            NestedSums x = new NestedSums();
-            x.span(0, 0, 0, 2, 2);
-            due.refuses(x, Build.STATE, "to the right", () -> x.nest(0, 0, 1, 1, 1));
-            due.refuses(x, Build.STATE, "below", () -> x.nest(0, 1, 0, 1, 1));
-            due.refuses(x, Build.STATE, "the last one", () -> x.nest(0, 1, 1, 1, 1));
-            due.is("the first one", x.nest(0, 0, 0, 1, 1), 1);
-        });
+        s.holds(NO_CELL, "each square beside the first one of a cell",
+                due -> Build.noCell(due, (x, table, row, column) -> x.nest(table, row, column, 1, 1)));
         for (int kind : new int[] {1, 2, 4, 5, 6}) {
             s.holds("or the cell is not empty", "the kind " + kind, due -> {
                 NestedSums x = new NestedSums();
@@ -321,15 +315,10 @@ final class TablesSentences {
             due.refuses(x, Build.ARGUMENT, "a width 0", () -> x.put(0, 0, 0, 2, 0));
             due.accepts("a number 0", () -> x.put(0, 0, 0, 1, 0));
         });
-        s.holds(NO_CELL, "each square beside the first one of a cell", due -> {
-            NestedSums x = new NestedSums();
-            x.span(0, 0, 0, 2, 2);
+        s.holds(NO_CELL, "each square beside the first one of a cell, each kind", due -> {
             for (int kind : new int[] {0, 1, 2, 4, 5, 6}) {
-                due.refuses(x, Build.STATE, "to the right", () -> x.put(0, 0, 1, kind, 1));
-                due.refuses(x, Build.STATE, "below", () -> x.put(0, 1, 0, kind, 1));
-                due.refuses(x, Build.STATE, "the last one", () -> x.put(0, 1, 1, kind, 1));
+                Build.noCell(due, (x, table, row, column) -> x.put(table, row, column, kind, 1));
             }
-            due.is("the first one", x.put(0, 0, 0, 1, 1), 0);
         });
         s.holds("or it has a table that is not the one with the greatest number", "beside, within, and deeper", due -> {
             NestedSums beside = new NestedSums();
@@ -474,14 +463,8 @@ final class TablesSentences {
             due.refuses(x, Build.ARGUMENT, "six columns", () -> x.span(0, 0, 0, 1, 6));
             due.refuses(x, Build.ARGUMENT, "rows less than none", () -> x.span(0, 2, 2, -1, -1));
         });
-        s.holds(NO_CELL, "each square beside the first one of a cell", due -> {
-            NestedSums x = new NestedSums();
-            x.span(0, 0, 0, 2, 2);
-            due.refuses(x, Build.STATE, "to the right", () -> x.span(0, 0, 1, 1, 1));
-            due.refuses(x, Build.STATE, "below", () -> x.span(0, 1, 0, 1, 1));
-            due.refuses(x, Build.STATE, "the last one", () -> x.span(0, 1, 1, 2, 2));
-            due.is("the first one", x.span(0, 0, 0, 1, 1), 1);
-        });
+        s.holds(NO_CELL, "each square beside the first one of a cell",
+                due -> Build.noCell(due, (x, table, row, column) -> x.span(table, row, column, 1, 1)));
     }
 
     private static void spanOverOthers(Sentences s) {
@@ -601,14 +584,8 @@ final class TablesSentences {
             due.refuses(x, Build.ARGUMENT, "the rule", () -> x.rule(0, 0, 0, 3, 4));
             due.refuses(x, Build.ARGUMENT, "both", () -> x.rule(0, 0, 0, -1, -1));
         });
-        s.holds(NO_CELL, "each square beside the first one of a cell", due -> {
-            NestedSums x = new NestedSums();
-            x.span(0, 0, 0, 2, 2);
-            due.refuses(x, Build.STATE, "to the right", () -> x.rule(0, 0, 1, 1, 1));
-            due.refuses(x, Build.STATE, "below", () -> x.rule(0, 1, 0, 2, 1));
-            due.refuses(x, Build.STATE, "the last one", () -> x.rule(0, 1, 1, 1, 1));
-            due.is("the first one", x.rule(0, 0, 0, 1, 1), 0);
-        });
+        s.holds(NO_CELL, "each square beside the first one of a cell",
+                due -> Build.noCell(due, (x, table, row, column) -> x.rule(table, row, column, 1, 1)));
     }
 
     private static void set(Sentences s) {

@@ -554,16 +554,24 @@ final class WouldBeSentences {
             due.is("five", x.digest(), DigestList.told(x, 1, ""));
         });
         String first = "ifPut of the table 0, row 0, column 0, with 77, and 0 to 2";
-        s.holds(first, "a table there, a sum, 77 itself, and a sum that would change", due -> {
-            NestedSums table = Build.chain(2);
-            due.is("NONE three times", table.digest(), DigestList.told(table, 10, ""));
+        s.holds(first, "a table there, so NONE three times", due -> {
+            NestedSums x = Build.chain(2);
+            due.is("the digest", x.digest(), DigestList.told(x, 10, ""));
+        });
+        for (int kind : new int[] {0, 1, 2, 4, 5, 6}) {
+            s.holds(first, "in place of the kind " + kind + ", with a sum that may change", due -> {
+                NestedSums x = new NestedSums();
+                x.put(0, 2, 2, 6, 0);
+                x.put(0, 0, 0, kind, 12);
+                due.is("the digest", x.digest(), DigestList.told(x, 10, ""));
+            });
+        }
+        s.holds(first, "77 itself, so no sum would change", due -> {
             NestedSums x = new NestedSums();
             x.put(0, 2, 2, 6, 0);
-            due.is("a sum that would change", x.digest(), DigestList.told(x, 10, ""));
             x.put(0, 0, 0, 1, 77);
-            due.is("77 itself", x.digest(), DigestList.told(x, 10, ""));
-            x.put(0, 0, 0, 6, 0);
-            due.is("a sum", x.digest(), DigestList.told(x, 10, ""));
+            due.is("sums", x.ifPut(0, 0, 0, 77, 1), 0);
+            due.is("the digest", x.digest(), DigestList.told(x, 10, ""));
         });
         s.holds("heightFor 1 and 2", "not alike", due -> {
             NestedSums x = rows(3, 3, 0, 0, 2);
